@@ -77,10 +77,10 @@ final class PlainCrowd {
     }
 
     private boolean known(int m) { return 0 <= m && m < w.members.size(); }
-    private boolean here(int m) { return known(m) && w.members.get(m).here; }
+    boolean here(int m) { return known(m) && w.members.get(m).here; }
     private static boolean value(int v) { return -1073741824 <= v && v <= 1073741824; }
     private static Line lineOf(int a, int b) { return new Line(Math.min(a, b), Math.max(a, b)); }
-    private boolean joined(int a, int b) { return w.lines.contains(lineOf(a, b)); }
+    boolean joined(int a, int b) { return w.lines.contains(lineOf(a, b)); }
 
     private int drawn() {
         w.seed = (w.seed * 1103515245L + 12345L) % 2147483648L;
