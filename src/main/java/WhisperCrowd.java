@@ -544,6 +544,13 @@ public final class WhisperCrowd {
             add(place, source.sums[from], source.weights[from]);
         }
 
+        void even(int asker, int other) {
+            long sum = sums[asker] + sums[other];
+            long weight = weights[asker] + weights[other];
+            put(other, sum >> 1, weight >> 1);
+            put(asker, sum - sums[other], weight - weights[other]);
+        }
+
         void move(int from, int place) {
             addFrom(place, this, from);
             put(from, 0L, 0L);
@@ -881,7 +888,7 @@ public final class WhisperCrowd {
             talks++;
             switch (kind) {
                 case EVEN:
-                    even(asker, other);
+                    evenByBooks(asker, other);
                     break;
                 case GREAT:
                     shareGreatest(asker, other);
@@ -892,21 +899,14 @@ public final class WhisperCrowd {
             }
         }
 
-        private void even(int asker, int other) {
-            long sum = masses.sums[asker] + masses.sums[other];
-            long weight = masses.weights[asker] + masses.weights[other];
-            long halfSum = sum >> 1;
-            long halfWeight = weight >> 1;
-            settle(other, asker, halfSum, halfWeight);
-            settle(asker, other, sum - halfSum, weight - halfWeight);
-        }
-
-        /** The partner's book tells what the member has more by this. */
-        private void settle(int member, int partner, long sum, long weight) {
-            long moreSum = sum - masses.sums[member];
-            long moreWeight = weight - masses.weights[member];
-            books.add(pair(partner, member), moreSum, moreWeight);
-            masses.put(member, sum, weight);
+        private void evenByBooks(int asker, int other) {
+            long askerSum = masses.sums[asker];
+            long askerWeight = masses.weights[asker];
+            long otherSum = masses.sums[other];
+            long otherWeight = masses.weights[other];
+            masses.even(asker, other);
+            books.add(pair(asker, other), masses.sums[other] - otherSum, masses.weights[other] - otherWeight);
+            books.add(pair(other, asker), masses.sums[asker] - askerSum, masses.weights[asker] - askerWeight);
         }
 
         private void shareGreatest(int asker, int other) {
@@ -1049,11 +1049,10 @@ public final class WhisperCrowd {
             long askerWeight = masses.weights[asker];
             long otherSum = masses.sums[other];
             long otherWeight = masses.weights[other];
-            long sum = askerSum + otherSum;
-            long weight = askerWeight + otherWeight;
-            masses.put(other, sum >> 1, weight >> 1);
-            masses.put(asker, sum - (sum >> 1), weight - (weight >> 1));
-            boolean found = evensOut(depth + 1, talks);
+            masses.even(asker, other);
+            // Without a talk that changes nothing a row is shorter, and such were tried before.
+            boolean changed = masses.sums[asker] != askerSum || masses.weights[asker] != askerWeight;
+            boolean found = changed && evensOut(depth + 1, talks);
             masses.put(asker, askerSum, askerWeight);
             masses.put(other, otherSum, otherWeight);
             return found;
