@@ -972,7 +972,7 @@ public final class WhisperCrowd {
         }
     }
 
-    /** The states behind the latest calls that can be taken back, in a ring. */
+    /** The states before the latest calls that can be taken back, in a ring. */
     private static final class History {
         final State[] kept = new State[MOST_UNDOS];
         int next = 0;
@@ -1060,7 +1060,7 @@ public final class WhisperCrowd {
 
         /**
          * Whether so few talks may be enough: each changes two, so all but twice as
-         * many are alike already, and one of these is among the first of the crowd.
+         * many must be alike already, and one of these is among the first of the crowd.
          */
         private boolean isNear(int talksLeft) {
             int changed = 2 * talksLeft;
