@@ -56,7 +56,7 @@ public final class WhisperCrowd {
     }
 
     public int line(int a, int b) {
-        if (!isMember(a) || !isMember(b) || a == b) {
+        if (!areTwo(a, b)) {
             return BAD;
         }
         if (now.isJoined(a, b)) {
@@ -68,7 +68,7 @@ public final class WhisperCrowd {
     }
 
     public int cut(int a, int b) {
-        if (!isMember(a) || !isMember(b)) {
+        if (!areTwo(a, b)) {
             return BAD;
         }
         if (!now.isJoined(a, b) || now.letters.anyOver(a, b)) {
@@ -322,13 +322,13 @@ public final class WhisperCrowd {
     }
 
     public int ticket(int member, int i) {
-        if (!isMember(member) || i < 0) {
+        if (!isMember(member)) {
             return BAD;
         }
         if (!now.isHere(member)) {
             return NO;
         }
-        return i < now.tickets.known[member] ? now.tickets.numberAt(member, i) : NONE;
+        return i >= 0 && i < now.tickets.known[member] ? now.tickets.numberAt(member, i) : NONE;
     }
 
     public int fewest(int limit) {
@@ -401,6 +401,10 @@ public final class WhisperCrowd {
 
     private boolean isMember(int member) {
         return member >= 0 && member < now.members;
+    }
+
+    private boolean areTwo(int a, int b) {
+        return isMember(a) && isMember(b) && a != b;
     }
 
     private boolean isHere(int member) {

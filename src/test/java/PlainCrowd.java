@@ -125,7 +125,7 @@ final class PlainCrowd {
     }
 
     int cut(int a, int b) {
-        if (!known(a) || !known(b)) return BAD;
+        if (!known(a) || !known(b) || a == b) return BAD;
         if (!joined(a, b)) return NO;
         for (Letter l : w.letters) {
             if (l != null && lineOf(l.from, l.to).equals(lineOf(a, b))) return NO;
@@ -459,10 +459,10 @@ final class PlainCrowd {
     }
 
     int ticket(int m, int i) {
-        if (!known(m) || i < 0) return BAD;
+        if (!known(m)) return BAD;
         if (!here(m)) return NO;
         List<Map.Entry<Integer, Integer>> row = sorted(w.members.get(m).tickets);
-        return i < row.size() ? row.get(i).getValue() : NONE;
+        return 0 <= i && i < row.size() ? row.get(i).getValue() : NONE;
     }
 
     private boolean level(long[][] mass) {

@@ -136,16 +136,21 @@ public final class PromisesTest {
     private static void promise4Cut() {
         WhisperCrowd x = chain(1, 2, 3);
         refused(x, "cut(0, 2)", () -> x.cut(0, 2), NO);
-        refused(x, "cut(1, 1)", () -> x.cut(1, 1), NO);
+        refused(x, "cut(1, 1)", () -> x.cut(1, 1), BAD);
         refused(x, "cut(0, 3)", () -> x.cut(0, 3), BAD);
-        for (int m : NOBODY) refused(x, "cut(" + m + ", 0)", () -> x.cut(m, 0), BAD);
+        for (int m : NOBODY) {
+            refused(x, "cut(" + m + ", 0)", () -> x.cut(m, 0), BAD);
+            refused(x, "cut(0, " + m + ")", () -> x.cut(0, m), BAD);
+        }
         x.send(1, 0);
         refused(x, "cut(0, 1) with a letter over it", () -> x.cut(0, 1), NO);
+        refused(x, "cut(0, 0) with a letter to it", () -> x.cut(0, 0), BAD);
         due("cut(2, 1)", x.cut(2, 1), 1);
         refused(x, "cut(1, 2)", () -> x.cut(1, 2), NO);
         due("talk(0, 1, 2)", x.talk(0, 1, 2), NO);
         x.lose(0);
         x.fall(1);
+        refused(x, "cut(1, 1), 1 being away", () -> x.cut(1, 1), BAD);
         due("cut(0, 1), 1 being away", x.cut(0, 1), 0);
         due("undo()", x.undo(), 9);
         due("count(2)", x.count(2), 1);
@@ -925,12 +930,15 @@ public final class PromisesTest {
         }
         due("ticket(2, 4)", x.ticket(2, 4), NONE);
         due("ticket(2, 2^31 - 1)", x.ticket(2, 2147483647), NONE);
-        due("ticket(2, -1)", x.ticket(2, -1), BAD);
+        due("ticket(2, -1)", x.ticket(2, -1), NONE);
+        due("ticket(2, -2^31)", x.ticket(2, -2147483648), NONE);
+        due("ticket(5, -1)", x.ticket(5, -1), BAD);
         due("ticket(5, 0)", x.ticket(5, 0), BAD);
         for (int m : NOBODY) due("ticket(" + m + ", 0)", x.ticket(m, 0), BAD);
         x.fall(2);
         due("ticket(2, 0), 2 being away", x.ticket(2, 0), NO);
         due("ticket(2, 9), 2 being away", x.ticket(2, 9), NO);
+        due("ticket(2, -1), 2 being away", x.ticket(2, -1), NO);
     }
 
     private static void promise29Fewest() {
